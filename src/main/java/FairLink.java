@@ -15,7 +15,8 @@ public final class FairLink {
     public static final int NOTHING = 0, HALF = 1, ALL = 2;
     public static final int WAITING = 0, SENDING = 1, SENT = 2, DELIVERED = 3, CANCELED = 4;
 
-    private static final int MOST_FLOWS = 6, KNOWN_PACKETS = 120, KNOWN_PIECES = 60, LONGEST_PAD = 80, SLOTS = 2;
+    private static final int MOST_FLOWS = 6, KNOWN_PACKETS = 120, KNOWN_PIECES = 60, SLOTS = 2;
+    private static final int LONGEST_PAD = 80, MOST_CHARACTERS = 8;
     private static final int GREATEST_WEIGHT = 16, GREATEST_ROOM = 20, GREATEST_SPLIT = 1000;
     private static final int GREATEST_LENGTH = 2000, GREATEST_DEADLINE = 9999, GREATEST_COUNT = 9;
     private static final int LAST_TIME = 1000000, MOST_TICKS = 2000, MOST_FORECAST_TICKS = 1000;
@@ -29,14 +30,12 @@ public final class FairLink {
     private static final int[] LINK_FIRST = {2, 1, 10, 1};
 
     private final State now;
-    private final Reader reader;
     private final State[] slots;
     // The forecasts' copy and the slots are made at their first use, so that an object that needs none stays small.
     private State copy;
 
     public FairLink() {
         now = new State();
-        reader = new Reader();
         slots = new State[SLOTS];
         copy = null;
     }
@@ -168,14 +167,14 @@ public final class FairLink {
     }
 
     public int fault() {
-        return reader.faultOf(now.pad);
+        return now.pad.findFault();
     }
 
     public int load() {
-        if (reader.faultOf(now.pad) != NONE) {
+        if (now.pad.findFault() != NONE) {
             return BAD_TEXT;
         }
-        if (reader.greatestFlowOf(now.pad) >= now.flowCount) {
+        if (!hasFlowsOfPad()) {
             return NO_SUCH;
         }
         int accepted = acceptArrivals();
@@ -435,27 +434,40 @@ public final class FairLink {
 
     /** How many characters a number holds; 0 if one of them, or what stands above them, is not allowed. */
     private static int countCharacters(long characters) {
-        int count = 0;
-        for (long rest = characters; rest != 0; rest = rest >>> 8) {
-            int code = (int) (rest & 255);
+        for (int i = 0; i < MOST_CHARACTERS; i++) {
+            long rest = characters >>> (8 * i);
+            if (rest == 0) {
+                return i;
+            }
+            long code = rest & 255;
             if (code < 33 || code > 126) {
                 return 0;
             }
-            count++;
         }
-        return count;
+        return MOST_CHARACTERS;
+    }
+
+    /** Whether there are all flows that the pad names, which must have no fault. */
+    private boolean hasFlowsOfPad() {
+        Pad pad = now.pad;
+        pad.rewind();
+        for (int i = 0; i < LONGEST_PAD && pad.readNext(); i++) {
+            if (!now.hasFlow(pad.flow)) {
+                return false;
+            }
+        }
+        return true;
     }
 
     /** The pad must have no fault and name no flow that is missing. */
     private int acceptArrivals() {
+        Pad pad = now.pad;
         int accepted = 0;
-        reader.open(now.pad);
-        while (reader.hasMore()) {
-            reader.readArrival();
-            reader.passComma();
-            for (int i = 0; i < reader.count; i++) {
-                if (now.canAccept(reader.flow)) {
-                    now.accept(reader.flow, reader.length, reader.deadline);
+        pad.rewind();
+        for (int i = 0; i < LONGEST_PAD && pad.readNext(); i++) {
+            for (int j = 0; j < pad.count; j++) {
+                if (now.canAccept(pad.flow)) {
+                    now.accept(pad.flow, pad.length, pad.deadline);
                     accepted++;
                 }
             }
@@ -539,6 +551,10 @@ public final class FairLink {
 
         int delay() {
             return deliveredAt - offeredAt;
+        }
+
+        boolean isLate() {
+            return deadline != NONE && deliveredAt > deadline;
         }
 
         void copyFrom(Packet other) {
@@ -666,12 +682,11 @@ public final class FairLink {
             return service - (long) UNIT * sent;
         }
 
-        void noteDelivery(Packet packet) {
-            int delay = packet.delay();
+        void noteDelivery(int delay, boolean isLate) {
             delivered++;
             sumOfDelays += delay;
             greatestDelay = Math.max(greatestDelay, delay);
-            if (packet.deadline != NONE && packet.deliveredAt > packet.deadline) {
+            if (isLate) {
                 late++;
             }
         }
@@ -721,19 +736,24 @@ public final class FairLink {
         }
     }
 
-    /** The text from which arrivals are read. */
+    /** The text from which arrivals are read, and a place that moves over it while it is read. */
     private static final class Pad {
         final char[] text;
         int size;
+        // The arrival that was read last.
+        int flow;
+        int length;
+        int deadline;
+        int count;
+        private int at;
 
         Pad() {
             text = new char[LONGEST_PAD];
-            size = 0;
         }
 
         /** The caller has made sure that they fit. */
-        void append(long characters, int count) {
-            for (int i = count - 1; i >= 0; i--) {
+        void append(long characters, int appended) {
+            for (int i = appended - 1; i >= 0; i--) {
                 if (size < text.length) {
                     text[size] = (char) ((characters >>> (8 * i)) & 255);
                     size++;
@@ -741,74 +761,43 @@ public final class FairLink {
             }
         }
 
-        void copyFrom(Pad other) {
-            System.arraycopy(other.text, 0, text, 0, text.length);
-            size = other.size;
-        }
-    }
-
-    /** Reads a pad from left to right; the arrival that was read last is in its fields. */
-    private static final class Reader {
-        int flow;
-        int length;
-        int deadline;
-        int count;
-        private Pad pad;
-        private int at;
-
-        Reader() {
-            pad = null;
+        int findFault() {
             at = 0;
-        }
-
-        void open(Pad opened) {
-            pad = opened;
-            at = 0;
-        }
-
-        boolean hasMore() {
-            return pad != null && at < pad.size && at < pad.text.length;
-        }
-
-        void passComma() {
-            at++;
-        }
-
-        int faultOf(Pad opened) {
-            open(opened);
-            while (hasMore()) {
+            while (at < size) {
                 if (!readArrival()) {
                     return at;
                 }
-                if (!hasMore()) {
+                if (at == size) {
                     return NONE;
                 }
-                if (!sees(',')) {
+                if (text[at] != ',') {
                     return at;
                 }
-                passComma();
+                at++;
             }
-            return at;
+            return size;
         }
 
-        /** The pad must have no fault. */
-        int greatestFlowOf(Pad opened) {
-            int greatest = 0;
-            open(opened);
-            while (hasMore()) {
-                readArrival();
-                passComma();
-                greatest = Math.max(greatest, flow);
+        void rewind() {
+            at = 0;
+        }
+
+        /** Reads the next arrival of a text without a fault; false at its end. */
+        boolean readNext() {
+            if (at >= size) {
+                return false;
             }
-            return greatest;
+            boolean whole = readArrival();
+            at++;
+            return whole;
         }
 
         /** Returns whether there is a whole arrival; if not, the place that was reached is the fault. */
-        boolean readArrival() {
-            if (!hasMore() || pad.text[at] < 'a' || pad.text[at] > 'f') {
+        private boolean readArrival() {
+            flow = at < size ? text[at] - 'a' : NONE;
+            if (flow < 0 || flow >= MOST_FLOWS) {
                 return false;
             }
-            flow = pad.text[at] - 'a';
             at++;
             length = readNumber(GREATEST_LENGTH);
             if (length == 0) {
@@ -824,7 +813,7 @@ public final class FairLink {
 
         /** The number behind a mark: the given value if the mark is not there, NONE if no number follows it. */
         private int readBehind(char mark, int greatest, int without) {
-            if (!sees(mark)) {
+            if (at >= size || text[at] != mark) {
                 return without;
             }
             at++;
@@ -835,10 +824,10 @@ public final class FairLink {
         /** Stops before the first character that cannot belong to the number; 0 if there is no number. */
         private int readNumber(int greatest) {
             int number = 0;
-            while (hasMore()) {
-                int digit = pad.text[at] - '0';
-                boolean isLeadingZero = number == 0 && digit == 0;
-                if (digit < 0 || digit > 9 || isLeadingZero || number * 10 + digit > greatest) {
+            while (at < size) {
+                int digit = text[at] - '0';
+                boolean leadingZero = number == 0 && digit == 0;
+                if (digit < 0 || digit > 9 || leadingZero || number * 10 + digit > greatest) {
                     return number;
                 }
                 number = number * 10 + digit;
@@ -847,8 +836,9 @@ public final class FairLink {
             return number;
         }
 
-        private boolean sees(char mark) {
-            return hasMore() && pad.text[at] == mark;
+        void copyFrom(Pad other) {
+            System.arraycopy(other.text, 0, text, 0, text.length);
+            size = other.size;
         }
     }
 
@@ -1058,7 +1048,7 @@ public final class FairLink {
             Packet packet = packetAt(number);
             packet.condition = DELIVERED;
             packet.deliveredAt = time;
-            flows[packet.flow].noteDelivery(packet);
+            flows[packet.flow].noteDelivery(packet.delay(), packet.isLate());
             if (lowestDelivered == NONE || number < lowestDelivered) {
                 lowestDelivered = number;
             }
@@ -1097,16 +1087,15 @@ public final class FairLink {
             if (current.packet != NONE) {
                 return;
             }
-            int next = nextFlow();
+            int urgent = urgentFlow();
+            int next = urgent == NONE ? leastTagFlow() : urgent;
             if (next == NONE) {
                 return;
             }
-            // The next head is urgent only if it goes ahead as an urgent one.
-            boolean promoted = isUrgent(packetAt(flows[next].head()));
-            if (!promoted) {
+            if (urgent == NONE) {
                 virtual = Math.max(virtual, tagOrFinish(flows[next]));
             }
-            beginPiece(next, promoted);
+            beginPiece(next, urgent != NONE);
         }
 
         private void beginPiece(int flow, boolean promoted) {
