@@ -12,11 +12,13 @@ import java.util.regex.Pattern;
  */
 final class Script {
     private static final Pattern CALL = Pattern.compile("\\s*(\\w+)\\(((?:\"[^\"]*\"|[^)\"])*)\\)\\s*=\\s*([-+*\\w]+)\\s*(?:;|$)");
+    private static final int MOST_CALLS = 512;
     private static int right = 0;
     private static int wrong = 0;
 
     private final String title;
     private final FairLink link = new FairLink();
+    private int made = 0;
 
     Script(String title) {
         this.title = title;
@@ -27,14 +29,6 @@ final class Script {
         for (String text : texts) {
             script.calls(text);
         }
-    }
-
-    /** Makes the calls of the text, as often as told. */
-    Script repeat(int times, String text) {
-        for (int i = 0; i < times; i++) {
-            calls(text);
-        }
-        return this;
     }
 
     Script calls(String text) {
@@ -80,6 +74,10 @@ final class Script {
     }
 
     private long answer(String name, String arguments) {
+        made++;
+        if (made > MOST_CALLS) {
+            throw new IllegalStateException(title + ": nothing is promised after " + MOST_CALLS + " calls");
+        }
         List<Long> values = new ArrayList<>();
         if (arguments.startsWith("\"")) {
             values.add(characters(arguments.substring(1, arguments.length() - 1)));
