@@ -29,6 +29,11 @@ public final class ForecastsTest {
             "addFlow(4) = 0; addFlow(1) = 1; rule(HEADER, 0) = 2; set(0, SPLIT, 10) = 0; set(1, SPLIT, 10) = 0; offer(0, 40, 0) = 0; offer(1, 40, 0) = 1; leastWeight(1, 82) = 1",
             "leastWeight(1, 81) = 5; leastWeight(1, 72) = 5; leastWeight(1, 71) = 7; leastWeight(1, 62) = 7; leastWeight(1, 61) = 13; leastWeight(1, 52) = 13; leastWeight(1, 51) = NONE",
             "flow(1, 0) = 1");
+        Script.run("22: the greatest weight",
+            "addFlow(15) = 0; addFlow(2) = 1; rule(HEADER, 0) = 2; set(0, SPLIT, 10) = 0; set(1, SPLIT, 10) = 0; offer(0, 20, 0) = 0; offer(1, 20, 0) = 1; leastWeight(1, 32) = 16",
+            "leastWeight(1, 31) = NONE; leastWeight(1, 42) = 1; advance(41) = 41; leastWeight(1, 1) = NOT_POSSIBLE");
+        Script.run("22: the least number of ticks",
+            "addFlow(1) = 0; rule(HEADER, 0) = 2; offer(0, 2, 0) = 0; leastWeight(0, 1) = NONE; advance(2) = 2; leastWeight(0, 1) = 1; forecast(0, 1) = 1");
         Script.run("22: in time up to the last tick",
             "addFlow(1) = 0; offer(0, 10, 0) = 0; leastWeight(0, 12) = NONE; leastWeight(0, 13) = 1; leastWeight(0, 1000) = 1; flow(0, 0) = 1");
         Script.run("22: errors",

@@ -84,6 +84,9 @@ public final class PacketsTest {
             "advance(3) = 3; packet(0, 4) = WAITING; packet(0, 5) = 2; cancel(0) = NOT_POSSIBLE; cancel(1) = NOT_POSSIBLE; advance(3) = 6",
             "packet(0, 4) = SENT; cancel(0) = NOT_POSSIBLE; packet(1, 4) = DELIVERED; cancel(1) = NOT_POSSIBLE; offer(1, 1, 0) = 2",
             "cancel(2) = 0; cancel(2) = NOT_POSSIBLE; packet(2, 4) = CANCELED");
+        Script.run("6: not when a length of 1 was sent",
+            "addFlow(1) = 0; addFlow(1) = 1; set(0, SPLIT, 1) = 0; rule(HEADER, 0) = 2; offer(0, 2, 0) = 0; offer(1, 1, 0) = 1; advance(2) = 2; packet(0, 4) = WAITING",
+            "packet(0, 5) = 1; cancel(0) = NOT_POSSIBLE; flow(0, 5) = 1");
     }
 
     private static void packet() {

@@ -44,6 +44,12 @@ final class Script {
         return this;
     }
 
+    /** Makes one call that is written without an answer. */
+    long ask(String call) {
+        int open = call.indexOf('(');
+        return answer(call.substring(0, open), call.substring(open + 1, call.length() - 1));
+    }
+
     void due(String call, long got, long want) {
         due(title, call, got, want);
     }

@@ -116,6 +116,9 @@ public final class TimeTest {
         Script.run("step 5: a weight that changes counts from the next tick on",
             "addFlow(1) = 0; addFlow(1) = 1; offer(0, 9, 0) = 0; offer(1, 9, 0) = 1; advance(2) = 2; amount(0, 5) = UNIT; set(0, WEIGHT, 3) = 1; advance(2) = 4",
             "amount(0, 5) = 5*360360; amount(1, 5) = 3*360360");
+        Script.run("step 5: the last unit of fluid",
+            "addFlow(7) = 0; addFlow(10) = 1; offer(0, 7, 0) = 0; offer(1, 100, 0) = 1; advance(17) = 17; amount(0, 4) = 1; amount(1, 5) = 7207184; advance(1) = 18",
+            "amount(0, 4) = 0; amount(0, 5) = 7*UNIT; amount(1, 5) = 7631136; advance(1) = 19; amount(1, 5) = 8351856");
         Script.run("step 5: fluid does not wait for headers, and the lag is its lead over what was sent",
             "addFlow(1) = 0; rule(HEADER, 5) = 2; offer(0, 3, 0) = 0; advance(3) = 3; amount(0, 5) = 3*UNIT; amount(0, 4) = 0; amount(0, 6) = 3*UNIT; advance(6) = 9",
             "amount(0, 6) = 0; amount(0, 7) = 3*UNIT; advance(5) = 14; amount(0, 7) = 3*UNIT");
@@ -151,6 +154,8 @@ public final class TimeTest {
         Script.run("step 6: nothing is promoted without PROMOTION",
             "addFlow(1) = 0; addFlow(1) = 1; rule(PROMOTION, 0) = 1; offer(0, 9, 0) = 0; offer(1, 9, 1) = 1; link(14) = 0; advance(1) = 1; link(7) = 0; link(10) = 0",
             "rule(PROMOTION, 1) = 0; link(14) = 1; advance(11) = 12; link(7) = 1; link(10) = 1; virtualTime() = 0");
+        Script.run("step 6: without a piece, none is promoted",
+            "addFlow(1) = 0; offer(0, 5, 1) = 0; advance(1) = 1; link(10) = 1; advance(6) = 7; link(10) = 1; advance(1) = 8; link(7) = NONE; link(10) = 0");
         Script.run("step 6: pieces of a promoted packet, and a packet that gets urgent between its pieces",
             "addFlow(1) = 0; addFlow(1) = 1; rule(HEADER, 0) = 2; rule(MARGIN, 0) = 10; set(1, SPLIT, 2) = 0; offer(1, 6, 9) = 0; offer(0, 5, 0) = 1; advance(1) = 1",
             "link(7) = 1; link(14) = 0; advance(5) = 6; link(7) = 0; link(10) = 1; advance(2) = 8; link(10) = 1; link(14) = 1; advance(4) = 12; packet(0, 7) = 3",
