@@ -80,6 +80,10 @@ public final class SavingTest {
             "amount(1, 3) = 2207205; flow(1, 11) = 2; restore(0) = 0; addFlow(3) = 1; flow(1, 0) = 3; flow(1, 2) = 0; flow(1, 3) = 0; flow(1, 4) = 2; flow(1, 5) = 0; flow(1, 6) = NONE; flow(1, 8) = 0; flow(1, 9) = 0; flow(1, 10) = 0; flow(1, 11) = 0",
             "flow(1, 12) = 0; flow(1, 13) = 0; flow(1, 14) = 0; amount(1, 0) = 0; amount(1, 3) = 0; amount(1, 4) = 0; amount(1, 5) = 0; amount(1, 6) = 0; amount(1, 7) = 0",
             "offer(1, 6, 0) = 0; packet(0, 1) = 6; packet(0, 3) = NONE; packet(0, 5) = 0; packet(0, 7) = 0; start(0) = 0; amount(1, 0) = 2*UNIT; awaitDelivery(50) = 0; link(0) = 9; link(15) = 1");
+        Script.run("25: a SENT packet that was undone is not delivered",
+            "addFlow(1) = 0; rule(HEADER, 0) = 2; rule(JOINING, 50) = 1; set(0, SPLIT, 1) = 0; save(1) = 0; advance(100) = 100; offer(0, 2, 0) = 0; advance(3) = 103",
+            "packet(0, 4) = SENT; save(0) = 103; restore(1) = 0; offer(0, 2, 0) = 0; offer(0, 2, 0) = 1; advance(5) = 5; packet(1, 4) = SENT; restore(0) = 103",
+            "awaitDelivery(10) = NONE; flow(0, 9) = 0; awaitDelivery(50) = 0; link(0) = 153; flow(0, 9) = 1");
         Script script = new Script("25: packets and pieces that were forgotten are known again")
             .calls("addFlow(1) = 0; rule(HEADER, 0) = 2; set(0, SPLIT, 1) = 0; offer(0, 3, 0) = 0; advance(5) = 5; save(1) = 5; offer(0, 100, 0) = 1; advance(110) = 115");
         for (int number = 2; number < 130; number++) {
