@@ -1,7 +1,9 @@
 import java.lang.reflect.InvocationTargetException;
 import java.lang.reflect.Method;
 import java.util.ArrayList;
+import java.util.HashMap;
 import java.util.List;
+import java.util.Map;
 import java.util.regex.Matcher;
 import java.util.regex.Pattern;
 
@@ -12,7 +14,9 @@ import java.util.regex.Pattern;
  */
 final class Script {
     private static final Pattern CALL = Pattern.compile("\\s*(\\w+)\\(((?:\"[^\"]*\"|[^)\"])*)\\)\\s*=\\s*([-+*\\w]+)\\s*(?:;|$)");
-    private static final int MOST_CALLS = 512;
+    static final int MOST_CALLS = 512;
+    private static final int MOST_TOLD = 40;
+    private static final Map<String, Method> METHODS = new HashMap<>();
     private static int right = 0;
     private static int wrong = 0;
 
@@ -50,6 +54,10 @@ final class Script {
         return answer(call.substring(0, open), call.substring(open + 1, call.length() - 1));
     }
 
+    int made() {
+        return made;
+    }
+
     void due(String call, long got, long want) {
         due(title, call, got, want);
     }
@@ -59,7 +67,9 @@ final class Script {
             right++;
         } else {
             wrong++;
-            System.out.println(title + ": " + call + " answered " + got + ", due is " + want);
+            if (wrong <= MOST_TOLD) {
+                System.out.println(title + ": " + call + " answered " + got + ", due is " + want);
+            }
         }
     }
 
@@ -93,15 +103,23 @@ final class Script {
             }
         }
         try {
-            for (Method method : FairLink.class.getDeclaredMethods()) {
-                if (method.getName().equals(name) && method.getParameterCount() == values.size()) {
-                    return ((Number) method.invoke(link, typed(method, values))).longValue();
-                }
-            }
+            Method method = method(name);
+            return ((Number) method.invoke(link, typed(method, values))).longValue();
         } catch (IllegalAccessException | InvocationTargetException e) {
             throw new IllegalStateException(title + ": " + name + "(" + arguments + ") threw", e);
         }
-        throw new IllegalArgumentException("no method " + name);
+    }
+
+    private static Method method(String name) {
+        if (METHODS.isEmpty()) {
+            for (Method method : FairLink.class.getMethods()) {
+                METHODS.put(method.getName(), method);
+            }
+        }
+        if (!METHODS.containsKey(name)) {
+            throw new IllegalArgumentException("no method " + name);
+        }
+        return METHODS.get(name);
     }
 
     private static Object[] typed(Method method, List<Long> values) {
