@@ -119,6 +119,9 @@ public final class EdgesOfForecastsTest {
             "bestSplit(GREATEST_INT, 0, 1, 1, 1) = NO_SUCH; bestSplit(0, -1, 1, 1, 1) = BAD_VALUE; bestSplit(0, 0, 0, 1, 1) = BAD_VALUE; bestSplit(0, 0, 1, 0, 1) = BAD_VALUE; bestSplit(0, 0, 1, 1, 0) = BAD_VALUE; bestSplit(0, 0, 1, 1, 1001) = BAD_VALUE",
             "bestSplit(0, 501, 500, 2, 1) = BAD_VALUE; bestSplit(0, 0, 1, 1, 1) = NOT_POSSIBLE; bestSplit(0, 500, 500, 2, 1000) = NOT_POSSIBLE; offer(0, 1, 0) = 0; bestSplit(0, 501, 500, 2, 1) = BAD_VALUE; bestSplit(1, 0, 1, 1, 1) = NO_SUCH");
         Edge.run("23", "NOT_POSSIBLE if all queues are empty",
+            "addFlow(1) = 0; addFlow(1) = 1; addFlow(1) = 2; save(0) = 0; addFlow(1) = 3; addFlow(1) = 4; addFlow(1) = 5; bestSplit(5, 0, 1, 1, 9) = NOT_POSSIBLE; offer(5, 1, 0) = 0; bestSplit(0, 0, 1, 1, 9) = 0; offer(3, 1, 0) = 1; restore(0) = 0",
+            "bestSplit(0, 0, 1, 1, 9) = NOT_POSSIBLE; link(14) = NONE; awaitDelivery(50) = NONE; link(12) = 0");
+        Edge.run("23", "NOT_POSSIBLE if all queues are empty",
             "addFlow(1) = 0; addFlow(1) = 1; bestSplit(0, 0, 1, 1, 9) = NOT_POSSIBLE; offer(1, 1, 0) = 0; bestSplit(0, 0, 1, 1, 9) = 0; advance(1) = 1; packet(0, 4) = SENDING; bestSplit(0, 0, 1, 1, 9) = 0; advance(3) = 4; bestSplit(0, 0, 1, 1, 9) = NOT_POSSIBLE",
             "offer(1, 1, 0) = 1; bestSplit(0, 3, 1, 2, 9) = 3; cancel(1) = 0; bestSplit(0, 3, 1, 2, 9) = NOT_POSSIBLE; bestSplit(0, 3, 1, 7, 9) = BAD_VALUE");
     }

@@ -156,11 +156,25 @@ public final class EdgesOfNumbersTest {
     }
 
     private static void pieceErrors() {
+        Script unknown = Edge.of("19", "NONE if there is no such piece, or it is not known any more").calls("addFlow(1) = 0; set(0, SPLIT, 1) = 0; rule(HEADER, 0) = 2; offer(0, 90, 0) = 0");
+        dueNoPieces(unknown, "-1", "0", "1", "59", "60", "LEAST_INT", "GREATEST_INT");
+        unknown.calls("advance(4) = 4; piece(2, 2) = 1");
+        dueNoPieces(unknown, "-1", "-57", "-60", "3", "4", "60", "63", "LEAST_INT", "GREATEST_INT");
+        unknown.calls("advance(60) = 64; piece(2, 2) = NONE; piece(3, 2) = 1; piece(62, 2) = 1");
+        dueNoPieces(unknown, "-1", "0", "2", "63", "64", "122", "123", "LEAST_INT", "GREATEST_INT");
         Edge.run("19", "number of the piece, from 0 for the first one that was sent",
             "addFlow(1) = 0; rule(HEADER, 0) = 2; offer(0, 1, 0) = 0; offer(0, 2, 0) = 1; advance(4) = 4; piece(-1, 0) = NONE; piece(0, 0) = 0; piece(1, 0) = 1; piece(2, 0) = NONE; piece(LEAST_INT, 0) = NONE; piece(GREATEST_INT, 0) = NONE");
         Edge.run("19", "NONE if there is no such piece, or it is not known any more; BAD_VALUE if what is out of range",
             "piece(0, 0) = NONE; piece(0, 4) = NONE; piece(0, 5) = BAD_VALUE; piece(0, -1) = BAD_VALUE; piece(-1, 5) = BAD_VALUE; piece(GREATEST_INT, LEAST_INT) = BAD_VALUE; piece(LEAST_INT, GREATEST_INT) = BAD_VALUE; addFlow(1) = 0",
             "set(0, SPLIT, 1) = 0; rule(HEADER, 0) = 2; offer(0, 61, 0) = 0; advance(61) = 61; piece(0, 0) = 0; piece(0, 5) = BAD_VALUE; piece(0, -1) = BAD_VALUE; piece(0, 4) = 0; advance(1) = 62; piece(0, 0) = NONE; piece(0, 5) = BAD_VALUE; piece(1, 0) = 0");
+    }
+
+    private static void dueNoPieces(Script script, String... pieces) {
+        for (String piece : pieces) {
+            for (int what = 0; what <= 4; what++) {
+                script.calls("piece(" + piece + ", " + what + ") = NONE");
+            }
+        }
     }
 
     private static void apart() {

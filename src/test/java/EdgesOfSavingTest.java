@@ -9,6 +9,7 @@ public final class EdgesOfSavingTest {
         overwritten();
         kept();
         emptyAndFull();
+        greatestNumbers();
         goneRound();
         pad();
         lastTime();
@@ -67,6 +68,17 @@ public final class EdgesOfSavingTest {
         for (int number = 0; number < 120; number++) {
             full.calls("packet(" + number + ", 1) = " + (number + 1) + "; packet(" + number + ", 4) = " + (number == 0 ? "SENDING" : "WAITING"));
         }
+    }
+
+    /** Numbers that only grow are the smaller ones again after a restore. */
+    private static void greatestNumbers() {
+        Edge.run("25", RESTORES,
+            "addFlow(1) = 0; addFlow(1) = 1; rule(HEADER, 0) = 2; set(0, PATIENCE, 1) = 0; offer(0, 2, 1) = 0; advance(3) = 3; save(0) = 3; flow(0, 12) = 3; flow(0, 13) = 3; flow(0, 10) = 1; amount(0, 3) = 2*UNIT; amount(0, 7) = 2*UNIT; link(12) = 2",
+            "offer(1, 9, 1) = 1; offer(0, 9, 1) = 2; advance(40) = 43; flow(0, 12) = 10; flow(0, 13) = 13; flow(0, 10) = 2; amount(0, 3) = 11*UNIT; amount(0, 7) = 9*360360; link(12) = 20; flow(1, 9) = 1; restore(0) = 3; flow(0, 12) = 3; flow(0, 13) = 3",
+            "flow(0, 10) = 1; amount(0, 3) = 2*UNIT; amount(0, 7) = 2*UNIT; link(12) = 2; flow(1, 9) = 0; flow(1, 10) = 0; flow(1, 12) = 0; flow(1, 13) = 0; flow(1, 14) = 0; amount(1, 5) = 0; amount(1, 7) = 0; flow(0, 8) = 2; flow(0, 9) = 1; flow(0, 14) = 1; link(15) = 1");
+        Edge.run("25", RESTORES,
+            "addFlow(1) = 0; rule(HEADER, 9) = 2; offer(0, 5, 0) = 0; offer(0, 5, 0) = 1; advance(3) = 3; link(9) = 12; save(1) = 3; rule(HEADER, 4) = 9; advance(15) = 18; link(7) = 1; link(9) = 6; link(13) = 9; restore(1) = 3; link(9) = 12; link(13) = 0",
+            "rule(HEADER, 1) = 9; advance(12) = 15; link(13) = 9; link(9) = 6; advance(6) = 21; link(13) = 10");
     }
 
     private static void goneRound() {

@@ -96,6 +96,10 @@ public final class EdgesOfTicksTest {
             "addFlow(16) = 0; addFlow(16) = 1; addFlow(16) = 2; addFlow(16) = 3; addFlow(16) = 4; addFlow(16) = 5; offer(0, 1, 0) = 0; advance(1) = 1; amount(0, 5) = UNIT",
             "offer(0, 1, 0) = 1; offer(1, 1, 0) = 2; offer(2, 1, 0) = 3; offer(3, 1, 0) = 4; offer(4, 1, 0) = 5; offer(5, 1, 0) = 6; advance(1) = 2; amount(0, 5) = 7*120120",
             "amount(5, 5) = 120120; amount(5, 4) = 5*120120; advance(5) = 7; amount(5, 4) = 0; amount(0, 4) = 0; amount(0, 5) = 2*UNIT; amount(5, 5) = UNIT; advance(1) = 8; amount(5, 5) = UNIT");
+        // After 17 ticks flow 0 has 1 left of its fluid: it still counts for W, and then not any more.
+        Edge.run(TERMS, "all flows that have fluid left",
+            "addFlow(7) = 0; addFlow(10) = 1; offer(0, 7, 0) = 0; offer(1, 100, 0) = 1; advance(17) = 17; amount(0, 4) = 1; amount(1, 5) = 7207184; advance(1) = 18; amount(0, 4) = 0; amount(0, 5) = 7*UNIT; amount(1, 5) = 7631136",
+            "advance(1) = 19; amount(0, 5) = 7*UNIT; amount(1, 5) = 8351856");
         Edge.run(TERMS, "(Offering a packet of length n gives its flow n * UNIT more fluid.)",
             "addFlow(3) = 0; offer(0, 1, 0) = 0; amount(0, 4) = UNIT; offer(0, 2000, 0) = 1; amount(0, 4) = 2001*UNIT; offer(0, 2001, 0) = BAD_VALUE; amount(0, 4) = 2001*UNIT",
             "cancel(1) = 1; amount(0, 4) = 2001*UNIT; advance(2000) = 2000; amount(0, 4) = UNIT; advance(1) = 2001; amount(0, 4) = 0; amount(0, 5) = 2001*UNIT; amount(0, 6) = 2000*UNIT");
@@ -151,6 +155,12 @@ public final class EdgesOfTicksTest {
             "link(7) = 1; link(10) = 1; advance(1) = 2; link(7) = 2; link(10) = 1; advance(1) = 3; link(7) = 0; link(10) = 1; advance(1) = 4; piece(0, 4) = 1; piece(1, 4) = 1; piece(2, 4) = 1",
             "virtualTime() = 0; packet(0, 7) = 1");
         Edge.run(TERMS, rule,
+            "addFlow(1) = 0; addFlow(1) = 1; addFlow(1) = 2; addFlow(1) = 3; rule(HEADER, 0) = 2; offer(0, 1, 0) = 0; offer(1, 1, 7) = 1; offer(2, 1, 8) = 2; offer(3, 1, 9) = 3; link(14) = 1; advance(1) = 1; link(7) = 1; link(14) = 1",
+            "advance(1) = 2; link(7) = 2; advance(1) = 3; link(7) = 3; advance(1) = 4; link(7) = 0; link(10) = 0");
+        Edge.run(TERMS, "the piece is promoted then",
+            "addFlow(1) = 0; addFlow(1) = 1; rule(HEADER, 0) = 2; offer(0, 3, 0) = 0; offer(1, 2, 1) = 1; offer(1, 2, 1) = 2; start(2) = 2*UNIT; advance(3) = 3; link(7) = 2; link(10) = 1; virtualTime() = 0; advance(2) = 5; link(7) = 0; link(10) = 0",
+            "virtualTime() = 0; piece(0, 4) = 1; piece(1, 4) = 1; advance(3) = 8; piece(2, 4) = 0");
+        Edge.run(TERMS, rule,
             "addFlow(1) = 0; addFlow(1) = 1; addFlow(1) = 2; rule(HEADER, 0) = 2; rule(MARGIN, 0) = 10; offer(0, 3, 0) = 0; offer(1, 2, 4) = 1; offer(2, 3, 4) = 2; packet(2, 9) = 0",
             "link(14) = 0; advance(1) = 1; packet(1, 9) = 0; packet(2, 9) = 1; link(7) = 2; link(10) = 1; link(14) = 2; advance(1) = 2; packet(1, 9) = 1; link(14) = 1");
         Edge.run(TERMS, rule,
@@ -185,6 +195,9 @@ public final class EdgesOfTicksTest {
         Edge.run(TERMS, "A packet that is DELIVERED at a time greater than its deadline is late.",
             "addFlow(1) = 0; rule(HEADER, 0) = 2; offer(0, 1, 2) = 0; offer(0, 1, 2) = 1; offer(0, 1, 0) = 2; advance(2) = 2; packet(0, 8) = 2; flow(0, 9) = 1; flow(0, 10) = 0",
             "advance(1) = 3; packet(1, 8) = 3; flow(0, 9) = 2; flow(0, 10) = 1; advance(1) = 4; flow(0, 9) = 3; flow(0, 10) = 1");
+        Edge.run(TERMS, "A packet that is DELIVERED at a time greater than its deadline is late.",
+            "addFlow(1) = 0; rule(HEADER, 0) = 2; offer(0, 1, 3) = 0; advance(2) = 2; packet(0, 8) = 2; flow(0, 9) = 1; flow(0, 10) = 0; offer(0, 1, 9999) = 1; advance(2) = 4; packet(1, 8) = 4; flow(0, 10) = 0",
+            "rule(JOINING, 9) = 1; set(0, SPLIT, 1) = 0; offer(0, 2, 12) = 2; offer(0, 2, 13) = 3; advance(12) = 16; packet(2, 8) = 16; flow(0, 10) = 0; advance(2) = 18; packet(3, 8) = 18; flow(0, 9) = 4; flow(0, 10) = 1");
         Edge.run(TERMS, "The delay of a DELIVERED packet is the time at which it was delivered minus the time at which it was offered.",
             "addFlow(1) = 0; rule(HEADER, 0) = 2; advance(7) = 7; offer(0, 1, 0) = 0; offer(0, 1, 0) = 1; flow(0, 12) = 0; flow(0, 13) = 0; advance(2) = 9; flow(0, 12) = 2; flow(0, 13) = 2",
             "advance(1) = 10; flow(0, 12) = 3; flow(0, 13) = 5; offer(0, 1, 0) = 2; advance(2) = 12; flow(0, 12) = 3; flow(0, 13) = 7");

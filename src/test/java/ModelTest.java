@@ -8,6 +8,8 @@ import java.util.Random;
  */
 public final class ModelTest {
     private static final int CALLS = 512;
+    // One late run for so many others: each of them makes a million ticks.
+    private static final int LATE_PART = 25;
     private static final String[] LETTERS = {"a", "b", "c", "d", "e", "f"};
 
     private final Random random;
@@ -19,6 +21,7 @@ public final class ModelTest {
     private final int latest;
     private final int wrongArguments;
     private final int texts;
+    private final boolean crowds;
     private boolean differs = false;
 
     private ModelTest(long seed) {
@@ -28,6 +31,7 @@ public final class ModelTest {
         latest = oneOf(5, 40, 300, 2000, 9999);
         wrongArguments = oneOf(0, 2, 5, 25);
         texts = oneOf(0, 3, 30);
+        crowds = random.nextInt(4) == 0;
     }
 
     public static void main(String[] args) {
@@ -35,6 +39,9 @@ public final class ModelTest {
         long first = args.length > 1 ? Long.parseLong(args[1]) : 1;
         for (long seed = first; seed < first + runs; seed++) {
             new ModelTest(seed).run(seed);
+        }
+        for (long seed = first; seed < first + runs / LATE_PART; seed++) {
+            new ModelTest(-seed).runLate(seed);
         }
         Script.end();
     }
@@ -47,6 +54,35 @@ public final class ModelTest {
         while (calls.size() < CALLS && !differs) {
             call();
         }
+        tell(seed);
+    }
+
+    /** Up to the last times that are allowed, and a few calls there. */
+    private void runLate(long seed) {
+        addFlow();
+        addFlow();
+        for (int i = 0; i < 499 && !differs; i++) {
+            due("advance(2000)", link.advance(2000), model.advance(2000));
+        }
+        offer();
+        while (calls.size() < CALLS && !differs) {
+            int left = 1000000 - model.link(0);
+            int n = random.nextInt(3) == 0 ? between(1, 2000) : Math.min(2001, Math.max(0, left + between(-3, 1)) / oneOf(1, 1, 2));
+            int dice = random.nextInt(8);
+            if (dice < 3) {
+                due("advance(" + n + ")", link.advance(n), model.advance(n));
+            } else if (dice < 5) {
+                due("awaitDelivery(" + n + ")", link.awaitDelivery(n), model.awaitDelivery(n));
+            } else if (dice < 6) {
+                offer();
+            } else {
+                ask();
+            }
+        }
+        tell(-seed);
+    }
+
+    private void tell(long seed) {
         if (differs) {
             System.out.println("run " + seed + " up to there: " + String.join("; ", calls));
         }
@@ -90,7 +126,11 @@ public final class ModelTest {
         return argument(oldest, newest, newest);
     }
 
+    /** Nothing is promised after so many calls. */
     private void due(String call, long got, long want) {
+        if (calls.size() >= CALLS) {
+            return;
+        }
         calls.add(call + " = " + want);
         differs |= got != want;
         Script.due("random run", call, got, want);
@@ -98,7 +138,9 @@ public final class ModelTest {
 
     private void call() {
         int dice = random.nextInt(100);
-        if (dice < 26) {
+        if (crowds && random.nextInt(5) == 0) {
+            bringCrowd();
+        } else if (dice < 26) {
             offer();
         } else if (dice < 42) {
             passTime();
@@ -171,6 +213,20 @@ public final class ModelTest {
         } else {
             due("wipe()", link.wipe(), model.wipe());
         }
+    }
+
+    /** Many short packets at once and time for them, so that the numbers of packets and pieces go round. */
+    private void bringCrowd() {
+        due("wipe()", link.wipe(), model.wipe());
+        due("rule(0, 0)", link.rule(0, 0), model.rule(0, 0));
+        StringBuilder text = new StringBuilder();
+        for (int i = between(2, 6); i > 0; i--) {
+            text.append(LETTERS[random.nextInt(Math.max(1, model.link(5)))]).append(between(1, 2)).append('*').append(between(6, 9)).append(i > 1 ? "," : "");
+        }
+        putText(text.toString());
+        due("load()", link.load(), model.load());
+        int n = between(20, 150);
+        due("advance(" + n + ")", link.advance(n), model.advance(n));
     }
 
     private String someText() {

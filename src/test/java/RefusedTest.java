@@ -13,8 +13,8 @@ public final class RefusedTest {
     private static final String FULL = "addFlow(1) = 0; addFlow(2) = 1; addFlow(3) = 2; addFlow(4) = 3; addFlow(5) = 4; addFlow(16) = 5; rule(HEADER, 0) = 2; set(0, SPLIT, 1) = 0; save(0) = 0;"
         + " put(\"a2000@1,\") = 8; put(\"a9*9,a3*\") = 16; put(\"9,a4\") = 20; load() = 20; put(\"b9*9,b3*\") = 8; put(\"9,b4*2\") = 14; load() = 20; put(\"c9*9,c3*\") = 8; put(\"9,c4*2\") = 14; load() = 20;"
         + " put(\"d9*9,d3*\") = 8; put(\"9,d4*2\") = 14; load() = 20; put(\"e9*9,e3*\") = 8; put(\"9,e4*2\") = 14; load() = 20; put(\"f9*9,f3*\") = 8; put(\"9,f4*2\") = 14; load() = 20; advance(70) = 70;"
-        + " save(1) = 70; put(\"a1,a1,a1\") = 8; put(\",a1,a1,a\") = 16; put(\"1,a1,a1,\") = 24; put(\"a1,a1,a1\") = 32; put(\",a1,a1,a\") = 40; put(\"1,a1,a1,\") = 48; put(\"a1,a1,a1\") = 56;"
-        + " put(\",a1,a1,a\") = 64; put(\"1,a1,a1,\") = 72; put(\"a1,a1,a0\") = 80; link(6) = 120; link(15) = 69; packet(0, 4) = SENDING; flow(0, 5) = 20; flow(5, 5) = 20";
+        + " save(1) = 70; rule(HEADER, 9) = 0; advance(1) = 71; link(9) = 10; put(\"a1,a1,a1\") = 8; put(\",a1,a1,a\") = 16; put(\"1,a1,a1,\") = 24; put(\"a1,a1,a1\") = 32; put(\",a1,a1,a\") = 40; put(\"1,a1,a1,\") = 48; put(\"a1,a1,a1\") = 56;"
+        + " put(\",a1,a1,a\") = 64; put(\"1,a1,a1,\") = 72; put(\"a1,a1,a0\") = 80; link(6) = 120; link(15) = 70; packet(0, 4) = SENDING; flow(0, 5) = 20; flow(5, 5) = 20";
 
     public static void main(String[] args) {
         Edge.of("Terms", "A call that returns an error changes nothing.");
@@ -81,7 +81,7 @@ public final class RefusedTest {
         new Twins("refused by a link in use", BUSY)
             .unchangedBy("advance(0) = BAD_VALUE; advance(-1) = BAD_VALUE; advance(2001) = BAD_VALUE; awaitDelivery(0) = BAD_VALUE; awaitDelivery(-1) = BAD_VALUE; awaitDelivery(2001) = BAD_VALUE")
             .unchangedBy("save(-1) = BAD_VALUE; save(2) = BAD_VALUE; restore(-1) = BAD_VALUE; restore(2) = BAD_VALUE");
-        new Twins("refused by an empty slot", "addFlow(1) = 0; offer(0, 9, 0) = 0; save(1) = 0; advance(3) = 3; put(\"a1\") = 2").unchangedBy("restore(0) = NOT_POSSIBLE; restore(2) = BAD_VALUE");
+        new Twins("refused by an empty slot", "addFlow(1) = 0; addFlow(2) = 1; offer(0, 9, 0) = 0; offer(1, 9, 50) = 1; save(1) = 0; advance(3) = 3; put(\"b1\") = 2").unchangedBy("restore(0) = NOT_POSSIBLE; restore(2) = BAD_VALUE");
     }
 
     private static void busyForecasts() {
@@ -91,7 +91,7 @@ public final class RefusedTest {
             .unchangedBy("leastWeight(1, 1000) = NOT_POSSIBLE; leastWeight(2, 1000) = NOT_POSSIBLE; bestSplit(3, 0, 1, 1, 1) = NO_SUCH; bestSplit(3, -1, 1, 1, 1) = NO_SUCH; bestSplit(0, -1, 1, 1, 1) = BAD_VALUE")
             .unchangedBy("bestSplit(0, 1001, 1, 1, 1) = BAD_VALUE; bestSplit(0, 0, 0, 1, 1) = BAD_VALUE; bestSplit(0, 0, 501, 1, 1) = BAD_VALUE; bestSplit(0, 0, 1, 0, 1) = BAD_VALUE; bestSplit(0, 0, 1, 7, 1) = BAD_VALUE")
             .unchangedBy("bestSplit(0, 0, 1, 1, 0) = BAD_VALUE; bestSplit(0, 0, 1, 1, 1001) = BAD_VALUE; bestSplit(0, 501, 500, 2, 1) = BAD_VALUE");
-        new Twins("refused without packets in queues", "addFlow(1) = 0; offer(0, 1, 0) = 0; cancel(0) = 0; save(0) = 0").unchangedBy("bestSplit(0, 1, 1, 6, 1000) = NOT_POSSIBLE; bestSplit(0, 0, 0, 1, 1) = BAD_VALUE; bestSplit(1, 0, 1, 1, 1) = NO_SUCH; leastWeight(0, 9) = NOT_POSSIBLE");
+        new Twins("refused without packets in queues", "addFlow(1) = 0; addFlow(2) = 1; set(1, SPLIT, 1) = 0; rule(JOINING, 50) = 1; offer(0, 1, 0) = 0; cancel(0) = 0; offer(1, 2, 9) = 1; advance(7) = 7; packet(1, 4) = SENT; save(1) = 7; put(\"b1\") = 2").unchangedBy("bestSplit(0, 1, 1, 6, 1000) = NOT_POSSIBLE; bestSplit(0, 0, 0, 1, 1) = BAD_VALUE; bestSplit(2, 0, 1, 1, 1) = NO_SUCH; leastWeight(0, 9) = NOT_POSSIBLE; leastWeight(1, 9) = NOT_POSSIBLE");
     }
 
     private static void onlyAsked() {
@@ -104,7 +104,7 @@ public final class RefusedTest {
         new Twins("refused by a link that is full", FULL)
             .unchangedBy("addFlow(1) = TOO_MANY; addFlow(16) = TOO_MANY; addFlow(0) = BAD_VALUE; addFlow(17) = BAD_VALUE; offer(0, 1, 0) = TOO_MANY; offer(5, 1, 0) = TOO_MANY; offer(5, 0, 0) = BAD_VALUE; offer(5, 1, 10000) = BAD_VALUE; offer(6, 1, 0) = NO_SUCH")
             .unchangedBy("offer(6, 0, 0) = NO_SUCH; put(\"a\") = TOO_MANY; put(\"12345678\") = TOO_MANY; put(0) = BAD_VALUE; put(32) = BAD_VALUE; load() = BAD_TEXT; cancel(0) = NOT_POSSIBLE; cancel(120) = NO_SUCH; packet(120, 0) = NO_SUCH; flow(6, 0) = NO_SUCH")
-            .unchangedBy("piece(8, 0) = NONE; piece(9, 5) = BAD_VALUE; leastWeight(0, 1001) = BAD_VALUE; forecast(119, 2001) = BAD_VALUE; bestSplit(6, 0, 1, 1, 1) = NO_SUCH; bestSplit(0, 1, 500, 3, 1) = BAD_VALUE; forecast(1, 2000) = NONE; leastWeight(20, 1000) = NONE")
+            .unchangedBy("piece(9, 0) = NONE; piece(10, 5) = BAD_VALUE; leastWeight(0, 1001) = BAD_VALUE; forecast(119, 2001) = BAD_VALUE; bestSplit(6, 0, 1, 1, 1) = NO_SUCH; bestSplit(0, 1, 500, 3, 1) = BAD_VALUE; forecast(1, 2000) = NONE; leastWeight(20, 1000) = NONE")
             .unchangedBy("bestSplit(0, 1, 100, 6, 1000) = 1; restore(2) = BAD_VALUE; save(2) = BAD_VALUE");
     }
 
@@ -121,12 +121,19 @@ public final class RefusedTest {
             .unchangedBy("cancel(0) = NO_SUCH; packet(0, 0) = NO_SUCH; packet(0, 10) = NO_SUCH; start(0) = GONE+NO_SUCH; forecast(0, 1) = NO_SUCH; forecast(0, 0) = NO_SUCH; leastWeight(0, 1) = NO_SUCH; leastWeight(0, 0) = NO_SUCH; piece(0, 0) = NONE");
     }
 
+    /** Five hundred calls go by until a late time, so that few are left for questions. */
     private static void lastTime() {
-        StringBuilder lead = new StringBuilder("addFlow(1) = 0; offer(0, 2, 0) = 0; advance(1999) = 1999");
+        StringBuilder lead = new StringBuilder("addFlow(1) = 0; addFlow(1) = 1");
         for (int i = 1; i < 500; i++) {
-            lead.append("; advance(2000) = ").append(1999 + 2000 * i);
+            lead.append("; advance(2000) = ").append(2000 * i);
         }
-        new Twins("refused at the last time but one", lead.toString(), "", "advance(1)")
-            .unchangedBy("advance(2) = NOT_POSSIBLE; advance(2000) = NOT_POSSIBLE; advance(2001) = BAD_VALUE; awaitDelivery(2) = NOT_POSSIBLE; awaitDelivery(2001) = BAD_VALUE");
+        lead.append("; offer(0, 9, 0) = 0; offer(1, 2000, 5) = 1; put(\"b1\") = 2; advance(1) = 998001; save(1) = 998001");
+        new Twins("refused at a late time", lead.toString(), "", "restore(1)").unchangedBy("advance(2000) = NOT_POSSIBLE; awaitDelivery(2000) = NOT_POSSIBLE");
+        StringBuilder last = new StringBuilder("addFlow(1) = 0; advance(1999) = 1999");
+        for (int i = 1; i < 500; i++) {
+            last.append("; advance(2000) = ").append(1999 + 2000 * i);
+        }
+        new Twins("refused at the last time but one", last.toString(), "", "advance(1)")
+            .unchangedBy("advance(2) = NOT_POSSIBLE; advance(2001) = BAD_VALUE; awaitDelivery(2) = NOT_POSSIBLE; awaitDelivery(2001) = BAD_VALUE");
     }
 }
