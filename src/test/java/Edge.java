@@ -1,16 +1,14 @@
-import java.io.IOException;
-import java.nio.file.Files;
-import java.nio.file.Path;
 import java.util.LinkedHashMap;
+import java.util.LinkedHashSet;
 import java.util.Map;
+import java.util.Set;
 
 /**
- * A test of one sentence of the document that names a boundary case. The sentence is quoted, so that a reader finds
- * it, and so that a quote that no longer stands in its section of the document is told.
+ * A test of one sentence of the document. The sentence is quoted, so that a reader finds it, so that a quote that no
+ * longer stands in its section of the document is told, and so that DocumentTest can see which sentences have no test.
  */
 final class Edge {
-    private static final Path DOCUMENT = Path.of("../shared/DOC.md");
-    private static final Map<String, String> SECTIONS = new LinkedHashMap<>();
+    private static final Map<String, Set<String>> QUOTES = new LinkedHashMap<>();
 
     private Edge() { }
 
@@ -21,9 +19,9 @@ final class Edge {
 
     /** The detail tells one of several tests of a sentence from the others. */
     static Script of(String section, String sentence, String detail) {
-        readDocument();
-        if (!SECTIONS.isEmpty()) {
-            boolean stands = SECTIONS.getOrDefault(section, "").contains(sentence);
+        QUOTES.computeIfAbsent(section, name -> new LinkedHashSet<>()).add(sentence);
+        if (Document.isThere()) {
+            boolean stands = Document.section(section).contains(sentence);
             Script.due(section, "\"" + sentence + "\" stands in the document", stands ? 1 : 0, 1);
         }
         return new Script(section + ": " + sentence + " " + detail);
@@ -36,19 +34,8 @@ final class Edge {
         }
     }
 
-    /** Leaves the sections empty if there is no document beside the project. */
-    private static void readDocument() {
-        if (!SECTIONS.isEmpty() || !Files.isReadable(DOCUMENT)) {
-            return;
-        }
-        try {
-            for (String part : Files.readString(DOCUMENT).split("(?m)^## ")) {
-                String title = part.lines().findFirst().orElse("");
-                String name = title.startsWith("Promise ") ? title.substring(8, title.indexOf(':')) : title.trim();
-                SECTIONS.put(name, part.replaceAll("\\s+", " "));
-            }
-        } catch (IOException e) {
-            throw new IllegalStateException("the document cannot be read", e);
-        }
+    /** The sentences of a section that were quoted since the Java machine began. */
+    static Set<String> quotes(String section) {
+        return QUOTES.getOrDefault(section, Set.of());
     }
 }

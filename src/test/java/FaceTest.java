@@ -3,6 +3,8 @@ import java.lang.reflect.Method;
 import java.lang.reflect.Modifier;
 import java.util.List;
 import java.util.TreeSet;
+import java.util.regex.Matcher;
+import java.util.regex.Pattern;
 
 /** The public face: the constants, the constructor and the methods of the document, and nothing else. */
 public final class FaceTest {
@@ -25,6 +27,10 @@ public final class FaceTest {
         isDue("it takes nothing", face.getConstructors()[0].getParameterCount() == 0);
         constants(face);
         methods(face);
+        if (Document.isThere()) {
+            documentFace();
+            documentConstants();
+        }
         for (Class<?> inside : face.getDeclaredClasses()) {
             inside(inside);
         }
@@ -61,6 +67,42 @@ public final class FaceTest {
             }
         }
         isDue("the methods are " + found, found.equals(new TreeSet<>(List.of(METHODS))));
+    }
+
+    /** What this test expects of the class is what the document's interface has now. */
+    private static void documentFace() {
+        TreeSet<String> constants = new TreeSet<>();
+        TreeSet<String> methods = new TreeSet<>();
+        for (String line : Document.face()) {
+            Matcher constant = Pattern.compile("^public static final (\\w+) (.*);$").matcher(line);
+            Matcher method = Pattern.compile("^public (\\w+ \\w+)\\((.*)\\);$").matcher(line);
+            if (constant.find()) {
+                for (String each : constant.group(2).split(", ")) {
+                    constants.add(constant.group(1) + " " + each.replace(" = ", " ").replaceAll("L$", ""));
+                }
+            } else if (method.find()) {
+                methods.add(method.group(1) + " [" + method.group(2).replaceAll(" \\w+(?=,|$)", "") + "]");
+            } else {
+                isDue("the constructor is " + line, line.equals("public FairLink();"));
+            }
+        }
+        isDue("the document's constants are " + constants, constants.equals(new TreeSet<>(List.of(CONSTANTS))));
+        isDue("the document's methods are " + methods, methods.equals(new TreeSet<>(List.of(METHODS))));
+    }
+
+    /** The terms tell the constants once more, as `NAME = value, ...`. */
+    private static void documentConstants() {
+        String terms = Document.section("Terms");
+        Matcher list = Pattern.compile("`([A-Z_]+ = -?\\d+L?(?:, [A-Z_]+ = -?\\d+)*)`").matcher(terms.substring(terms.indexOf("The constants:")));
+        int found = 0;
+        while (list.find()) {
+            for (String each : list.group(1).split(", ")) {
+                String constant = each.replace(" = ", " ").replaceAll("L$", "");
+                isDue("the constant " + constant, List.of(CONSTANTS).contains((constant.startsWith("GONE") ? "long " : "int ") + constant));
+                found++;
+            }
+        }
+        isDue("all constants are told once more", found == CONSTANTS.length);
     }
 
     private static String signature(Method method) {
