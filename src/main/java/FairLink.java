@@ -21,6 +21,7 @@ public final class FairLink {
     private static final int GREATEST_LENGTH = 2000, GREATEST_DEADLINE = 9999, GREATEST_COUNT = 9;
     private static final int LAST_TIME = 1000000, MOST_TICKS = 2000, MOST_FORECAST_TICKS = 1000;
     private static final int GREATEST_STEP = 500, MOST_SPLITS = 6;
+    private static final int GREATER_THAN_ANY_DELAY = 2147483647;
 
     // Indexed by the setting, WEIGHT to MERCY and HEADER to PROMOTION; the least value of each link setting is 0.
     private static final int[] FLOW_LEAST = {1, 1, 0, 0, 0};
@@ -394,7 +395,7 @@ public final class FairLink {
             return NOT_POSSIBLE;
         }
         int best = first;
-        int leastDelay = Integer.MAX_VALUE;
+        int leastDelay = GREATER_THAN_ANY_DELAY;
         for (int i = 0; i < count; i++) {
             int split = first + i * step;
             int delay = greatestDelayWith(flow, split, ticks);
@@ -493,7 +494,7 @@ public final class FairLink {
         return copy;
     }
 
-    /** Of the packets that are in queues now; Integer.MAX_VALUE if one of them is not DELIVERED within the ticks. */
+    /** Of the packets that are in queues now; GREATER_THAN_ANY_DELAY if one of them is not DELIVERED within the ticks. */
     private int greatestDelayWith(int flow, int split, int ticks) {
         State trial = freshCopy();
         trial.flows[flow].settings[SPLIT] = split;
@@ -505,7 +506,7 @@ public final class FairLink {
             if (now.packetAt(number).isQueued()) {
                 Packet packet = trial.packetAt(number);
                 if (packet.condition != DELIVERED) {
-                    return Integer.MAX_VALUE;
+                    return GREATER_THAN_ANY_DELAY;
                 }
                 greatest = Math.max(greatest, packet.delay());
             }
@@ -763,7 +764,7 @@ public final class FairLink {
 
         int findFault() {
             at = 0;
-            while (at < size) {
+            for (int i = 0; i < LONGEST_PAD && at < size; i++) {
                 if (!readArrival()) {
                     return at;
                 }

@@ -11,7 +11,7 @@ public final class LanguageTest {
         "\\bassert\\b", "\\bimport\\b", "\\bpackage\\b", "\\bprotected\\b", "\\bvolatile\\b", "\\bnative\\b", "\\btransient\\b", "->", "::", "\\bstatic\\s*\\{",
         "@", "\"", "\\bObject\\b", "\\bhashCode\\b", "\\btoString\\b", "\\bequals\\b", "\\bdouble\\b", "\\bfloat\\b", "Exact\\b", "\\bfor \\(;;\\)",
         "\\bwhile \\(true\\)"};
-    private static final List<String> LIBRARY = List.of("Math.max", "Math.min", "Math.abs", "Math.floorMod", "System.arraycopy", "Integer.MAX_VALUE");
+    private static final List<String> LIBRARY = List.of("Math.max", "Math.min", "Math.abs", "Math.floorMod", "System.arraycopy");
     private static final List<String> MADE = List.of("State", "State[", "Flow", "Flow[", "Packet", "Packet[", "Piece", "Piece[", "Pad", "int[", "char[");
     private static final int LONGEST_METHOD = 60;
     private static final int MOST_CLASSES = 12;
