@@ -7,10 +7,11 @@ import java.nio.file.Files;
 import java.nio.file.Path;
 import java.util.ArrayList;
 import java.util.List;
+import java.util.Optional;
 import java.util.function.BiConsumer;
 import java.util.regex.Matcher;
 import java.util.regex.Pattern;
-import javax.tools.ToolProvider;
+import java.util.spi.ToolProvider;
 
 /** The Java of README.md: it compiles, and each line that tells an answer ("// = 3") gives it; all calls are told of. */
 public final class ReadmeTest {
@@ -26,6 +27,16 @@ public final class ReadmeTest {
                 isDue("has an example of " + method.getName(), readme.contains("link." + method.getName() + "("));
             }
         }
+        Optional<ToolProvider> compiler = ToolProvider.findFirst("javac");
+        if (compiler.isPresent()) {
+            runExamples(readme, compiler.get());
+        } else {
+            System.out.println("this java has no compiler: the examples are not run");
+        }
+        Script.end();
+    }
+
+    private static void runExamples(String readme, ToolProvider compiler) throws IOException, ReflectiveOperationException {
         Path place = Files.createTempDirectory("readme");
         Path source = place.resolve("Readme.java");
         // The last one told is deleted first: the files, and then their directory.
@@ -33,13 +44,12 @@ public final class ReadmeTest {
         source.toFile().deleteOnExit();
         place.resolve("Readme.class").toFile().deleteOnExit();
         Files.writeString(source, program(readme));
-        int refused = ToolProvider.getSystemJavaCompiler().run(null, null, null,
+        int refused = compiler.run(System.out, System.out,
             "-d", place.toString(), "-cp", System.getProperty("java.class.path"), source.toString());
         isDue("its Java compiles", refused == 0);
         if (refused == 0) {
             run(place);
         }
-        Script.end();
     }
 
     private static void isDue(String what, boolean is) {
